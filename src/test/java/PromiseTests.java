@@ -859,6 +859,7 @@ public final class PromiseTests {
             10, 6, 2, 2, 3, 3, 4, 1, 1, 1, 2, 1, 2,
             0, 2, 0, 0};
         for (int i = 0; i < texts.length; i++) {
+            x = new SharedEchoes();
             faultIs(x, texts[i], texts[i].equals("s00000;1") ? 7 : 0, 1, causes[i]);
         }
         faultIs(x, "z1;t3,64,-900;s-", 14, 1, 2);
@@ -871,9 +872,11 @@ public final class PromiseTests {
         String[] texts = {"s20001;", "s-20001;", "s99999;", "z0;", "z201;", "t4,1,1;", "t0,0,1;", "t0,65,1;", "t0,1,901;",
             "t0,1,-901;", "f0,1;", "f65,1;", "f1,951;", "k0;", "k49;", "g0;", "g49;"};
         for (String text : texts) {
+            x = new SharedEchoes();
             faultIs(x, text, 0, 2, INVALID);
             faultIs(x, "s1;" + text + "x", 3, 2, INVALID);
         }
+        x = new SharedEchoes();
         faultIs(x, "g1;", 0, 2, IMPOSSIBLE);
         faultIs(x, "k3;g2;g2;", 6, 2, IMPOSSIBLE);
         faultIs(x, "k48;k1;", 4, 2, LIMIT);
