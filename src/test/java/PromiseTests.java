@@ -613,9 +613,9 @@ public final class PromiseTests {
         x.off(0);
         due("loudest()", x.loudest(), 14400);
         x.set(0, 999);
-        x.tap(0, 1, 501);
-        x.tap(1, 1, -501);
-        due("loudest(), each rounded by itself", x.loudest(), 1000);
+        x.tap(0, 1, 500);
+        x.tap(1, 1, -500);
+        due("loudest(), each rounded by itself", x.loudest(), 998);
         x.set(0, 30000);
         for (int tap = 0; tap < 4; tap++) {
             x.tap(tap, 16, tap % 2 == 0 ? 900 : -900);
